@@ -1,0 +1,90 @@
+/** Compares answers with those that are due, and types texts. */
+final class Due {
+  private static int asked = 0;
+  private static int wrong = 0;
+
+  private Due() {
+  }
+
+  static void is(String what, long got, long want) {
+    asked++;
+    if (got != want) {
+      wrong++;
+      if (wrong <= 40) {
+        System.out.println("  " + what + " answered " + got + ", due is " + want);
+      }
+    }
+  }
+
+  static void holds(String what, boolean truth) {
+    is(what, truth ? 1 : 0, 1);
+  }
+
+  /** Puts a text in place of the one that is there. */
+  static void text(StretchSpool x, String text) {
+    x.clearText();
+    for (int place = 0; place < text.length(); place++) {
+      x.type(text.charAt(place));
+    }
+  }
+
+  static int perform(StretchSpool x, String text) {
+    text(x, text);
+    return x.perform();
+  }
+
+  /** A new object with one wire on the spool 0. */
+  static StretchSpool with(String letters) {
+    StretchSpool x = new StretchSpool();
+    is("write 0 " + letters, perform(x, "write 0 " + letters), letters.length());
+    return x;
+  }
+
+  static String times(String part, int times) {
+    StringBuilder all = new StringBuilder();
+    for (int time = 0; time < times; time++) {
+      all.append(part);
+    }
+    return all.toString();
+  }
+
+  /** All that an object tells, as one text: what is the same before and after changed nothing. */
+  static String all(StretchSpool x) {
+    StringBuilder told = new StringBuilder();
+    for (int what = 0; what <= 10; what++) {
+      told.append(x.count(what)).append(' ');
+    }
+    return told.append(stateOf(x)).toString();
+  }
+
+  /** What belongs to the state alone: without the history, the text and the snapshot. */
+  static String stateOf(StretchSpool x) {
+    StringBuilder told = new StringBuilder();
+    for (int what = 0; what <= 8; what++) {
+      told.append(x.count(what)).append(' ');
+    }
+    for (int spool = 0; spool < 6; spool++) {
+      told.append("; ").append(spool).append(": ").append(x.spool(spool, 4)).append(' ');
+      for (int gap = 0; x.gap(spool, gap, 0) >= 0; gap++) {
+        for (int what = 0; what <= 2; what++) {
+          told.append(x.gap(spool, gap, what)).append(what < 2 ? '/' : ' ');
+        }
+      }
+      told.append(x.spool(spool, 1));
+    }
+    for (int back = 0; back < 11; back++) {
+      told.append("; ");
+      for (int what = 0; what <= 2; what++) {
+        told.append(x.event(back, what)).append(' ');
+      }
+    }
+    return told.toString();
+  }
+
+  static void end() {
+    System.out.println("  " + asked + " answers, " + wrong + " not as due");
+    if (wrong != 0) {
+      System.exit(1);
+    }
+  }
+}
