@@ -72,7 +72,7 @@ public final class StretchSpool {
     if (rule == previous) {
       return NONE;
     }
-    history.record(now);
+    history.remember(now);
     now.rule = rule;
     return previous;
   }
@@ -85,7 +85,7 @@ public final class StretchSpool {
     if (limit == previous) {
       return NONE;
     }
-    history.record(now);
+    history.remember(now);
     now.limit = limit;
     return previous;
   }
@@ -102,7 +102,7 @@ public final class StretchSpool {
     if (!now.wires[spool].present) {
       return NOT_POSSIBLE;
     }
-    history.record(now);
+    history.remember(now);
     return now.wind(spool, pull, times);
   }
 
@@ -114,7 +114,7 @@ public final class StretchSpool {
     if (!isSpool(other)) {
       return FULL;
     }
-    history.record(now);
+    history.remember(now);
     now.wires[other].takeTail(now.wires[spool], letter);
     now.used += END_NOMINAL;
     now.log.add(CUT, spool, other);
@@ -136,7 +136,7 @@ public final class StretchSpool {
     if (first.letters + second.letters > MOST_LETTERS) {
       return FULL;
     }
-    history.record(now);
+    history.remember(now);
     first.join(second);
     now.log.add(SPLICED, spool, first.letters);
     return first.letters;
@@ -153,7 +153,7 @@ public final class StretchSpool {
     if (wire.closed) {
       return NONE;
     }
-    history.record(now);
+    history.remember(now);
     wire.putEnd();
     now.used += END_NOMINAL;
     now.log.add(CLOSED, spool, wire.letters);
@@ -175,7 +175,7 @@ public final class StretchSpool {
     if (reader.unread > 0) {
       return NOT_POSSIBLE;
     }
-    history.record(now);
+    history.remember(now);
     wire.punchAll(reader.numbers);
     now.used += wire.sumOfNominals();
     now.log.add(PUNCHED, spool, way);
@@ -230,7 +230,7 @@ public final class StretchSpool {
     if (to - from > MOST_LETTERS) {
       return FULL;
     }
-    history.record(now);
+    history.remember(now);
     wire.begin();
     for (int place = from; place < to; place++) {
       wire.write(text.codeAt(place) - 'a');
@@ -260,7 +260,7 @@ public final class StretchSpool {
     if (!kept) {
       return NONE;
     }
-    history.record(now);
+    history.remember(now);
     now.copyFrom(snapshot);
     return now.spoolsWithWire();
   }
@@ -889,7 +889,7 @@ public final class StretchSpool {
       }
     }
 
-    void record(State state) {
+    void remember(State state) {
       if (size == MOST_STATES) {
         turn();
       }
