@@ -563,6 +563,9 @@ public final class StretchSpool {
     }
 
     private void putGap(int gap, int nominal, int truth) {
+      if (gap < 0 || gap >= MOST_GAPS) {
+        return;
+      }
       lengths[gap] = nominal;
       nominals[gap] = nominal;
       truths[gap] = truth;
@@ -685,7 +688,7 @@ public final class StretchSpool {
       unread = 0;
       firstError = NO_LETTER;
       int measure = wire.lengths[0];
-      for (int letter = 0; letter < wire.letters; letter++) {
+      for (int letter = 0; letter < wire.letters && letter < MOST_LETTERS; letter++) {
         int length = wire.lengths[letter + 1];
         if (way == BY_BOTH_ENDS) {
           measure = measureBetweenEnds(wire, letter);

@@ -5,6 +5,7 @@ public final class Promise04RewindTest {
     minutesAndLengths();
     breakInTheMiddle();
     breakOfTheEnd();
+    breakAtTheFirstLetter();
     breakAtTheBeginning();
     stretchIsByTheGapsThatAreLeft();
     Due.end();
@@ -87,6 +88,18 @@ public final class Promise04RewindTest {
     Due.is("no letter lost", x.count(6), 0);
     Due.is("one gap lost", x.event(0, 2), 1);
     Due.is("spool of the event", x.event(0, 1), 0);
+  }
+
+  /** By rule 1 and the pull 7 the beginning stretches by 98, the first letter by 105. */
+  private static void breakAtTheFirstLetter() {
+    StretchSpool x = Due.with("aaaa");
+    x.setRule(1);
+    x.setLimit(101);
+    Due.is("rewind(0, 7, 2)", x.rewind(0, 7, 2), 1);
+    Due.is("a wire without letters is left", x.spool(0, 0), 0);
+    Due.is("its one gap", x.spool(0, 2), 5049);
+    Due.is("letters lost", x.count(6), 4);
+    Due.is("gaps lost", x.event(0, 2), 5);
   }
 
   private static void breakAtTheBeginning() {

@@ -50,6 +50,11 @@ public final class Promise11PerformTest {
     fault("write0 a", 5);
     fault("cutA", 3);
     fault("cut-1", 3);
+    fault("cut1", 3);
+    fault("cut1x", 3);
+    fault("cut1 1", 3);
+    fault("write0a", 5);
+    fault("close1", 5);
     fault("close\t0", 5);
   }
 

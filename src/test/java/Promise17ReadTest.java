@@ -84,6 +84,14 @@ public final class Promise17ReadTest {
     Due.is("11246 over 5623", x.read(1, 2, 1), '?');
     Due.is("11246 over 5935", x.read(1, 2, 2), 'h');
     Due.is("by the beginning", x.read(1, 0, 2), '?');
+
+    StretchSpool y = Due.with("hhhh");
+    y.rewind(0, 9, 3);
+    y.cut(0, 0);
+    Due.is("9902 over 5100", y.read(1, 2, 0), '?');
+    Due.is("9902 over 5200", y.read(1, 2, 1), '?');
+    Due.is("9902 over 5300", y.read(1, 2, 2), 'h');
+    Due.is("9902 over 5400", y.read(1, 2, 3), 'h');
   }
 
   private static void wrongValues() {

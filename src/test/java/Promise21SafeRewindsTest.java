@@ -13,10 +13,28 @@ public final class Promise21SafeRewindsTest {
     Due.is("the next one makes another misread", x.safeRewinds(0, 0, 9), 0);
     Due.is("as they are read now: with the pull 0 for ever", x.safeRewinds(0, 0, 0), 30);
 
+    theFirstLetterAlone();
     whatCannotBeReadNow();
     breaks();
     wrongValues();
     Due.end();
+  }
+
+  /** A g of 8473 over a new beginning: by 171 and 162 it is 9065 over 5330 at the fourth rewind. */
+  private static void theFirstLetterAlone() {
+    StretchSpool x = Due.with("gaa");
+    x.setLimit(200);
+    x.rewind(0, 9, 1);
+    x.rewind(0, 7, 1);
+    x.rewind(0, 4, 1);
+    x.cut(0, 0);
+    x.setRule(1);
+    Due.is("length", x.gap(1, 1, 0), 8473);
+    Due.is("three", x.safeRewinds(1, 0, 9), 3);
+    x.rewind(1, 9, 3);
+    Due.is("it is read as it was", x.read(1, 0, 0), 'g');
+    x.rewind(1, 9, 1);
+    Due.is("it is not", x.read(1, 0, 0), 'h');
   }
 
   /** By rule 2 the beginning stretches more: a letter beyond h comes back into what can be read. */

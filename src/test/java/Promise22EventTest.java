@@ -29,6 +29,7 @@ public final class Promise22EventTest {
     Due.is("behind the splicing", x.event(2, 0), 4);
 
     atMostTen();
+    tenOfSeveralKinds();
     wrongValues();
     Due.end();
   }
@@ -62,6 +63,31 @@ public final class Promise22EventTest {
     x.rewind(0, 1, 30);
     Due.is("more than ten at once", x.event(9, 2), 1);
     Due.is("ten are known", x.event(10, 2), StretchSpool.NONE);
+  }
+
+  private static void tenOfSeveralKinds() {
+    StretchSpool x = new StretchSpool();
+    for (int spool = 0; spool < 5; spool++) {
+      Due.perform(x, "write " + spool + " " + Due.times("b", spool + 1));
+      x.rewind(spool, spool + 2, 1);
+    }
+    x.cut(4, 1);
+    latest(x, 3, 4, 5);
+    x.close(4);
+    latest(x, 5, 4, 1);
+    for (int back = 2; back < 10; back++) {
+      int spool = 5 - back / 2;
+      Due.is("kind", x.event(back, 0), 1 - back % 2);
+      Due.is("spool", x.event(back, 1), spool);
+      Due.is("number", x.event(back, 2), back % 2 == 0 ? spool + 2 : spool + 1);
+    }
+    x.undo();
+    latest(x, 3, 4, 5);
+    x.undo();
+    latest(x, 1, 4, 6);
+    Due.is("spool", x.event(2, 1), 3);
+    Due.is("the first one is back", x.event(9, 1), 0);
+    Due.is("as it was", x.event(9, 0), 0);
   }
 
   private static void wrongValues() {
