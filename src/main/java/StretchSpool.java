@@ -521,7 +521,7 @@ public final class StretchSpool {
       if (!present) {
         return 0;
       }
-      return closed ? letters + 2 : letters + 1;
+      return Math.min(closed ? letters + 2 : letters + 1, MOST_GAPS);
     }
 
     boolean hasGap(int gap) {
@@ -704,11 +704,11 @@ public final class StretchSpool {
 
     private static int measureBetweenEnds(Wire wire, int letter) {
       int begin = wire.lengths[0];
-      if (!wire.closed) {
+      int end = wire.letters + 1;
+      if (end <= 0 || !wire.hasGap(end)) {
         return begin;
       }
-      int end = wire.lengths[wire.letters + 1];
-      return begin + (end - begin) * (letter + 1) / (wire.letters + 1);
+      return begin + (wire.lengths[end] - begin) * (letter + 1) / end;
     }
 
     /** The number of the letter, or NO_LETTER if it cannot be read. */

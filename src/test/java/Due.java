@@ -1,9 +1,28 @@
+import java.io.IOException;
+import java.io.UncheckedIOException;
+import java.nio.file.Files;
+import java.nio.file.Path;
+import java.nio.file.StandardOpenOption;
+import java.util.LinkedHashSet;
+import java.util.Set;
+
 /** Compares answers with those that are due, and types texts. */
 final class Due {
   private static int asked = 0;
   private static int wrong = 0;
+  private static String sentence = "";
+  private static final Set<String> SENTENCES = new LinkedHashSet<>();
 
   private Due() {
+  }
+
+  /**
+   * Says which sentence of the document, or which part of one, under which heading, is held by what is
+   * asked next. SentencesTest looks whether the document says so, and whether any sentence is left.
+   */
+  static void sentence(String heading, String words) {
+    sentence = heading + ", \"" + words + "\": ";
+    SENTENCES.add(heading + "\t" + words + "\n");
   }
 
   static void is(String what, long got, long want) {
@@ -11,7 +30,7 @@ final class Due {
     if (got != want) {
       wrong++;
       if (wrong <= 40) {
-        System.out.println("  " + what + " answered " + got + ", due is " + want);
+        System.out.println("  " + sentence + what + " answered " + got + ", due is " + want);
       }
     }
   }
@@ -82,9 +101,23 @@ final class Due {
   }
 
   static void end() {
+    leaveSentences();
     System.out.println("  " + asked + " answers, " + wrong + " not as due");
     if (wrong != 0) {
       System.exit(1);
+    }
+  }
+
+  /** For SentencesTest, which runs behind all others. */
+  private static void leaveSentences() {
+    String place = System.getProperty("stretchspool.sentences");
+    if (place == null) {
+      return;
+    }
+    try {
+      Files.writeString(Path.of(place), String.join("", SENTENCES), StandardOpenOption.CREATE, StandardOpenOption.APPEND);
+    } catch (IOException e) {
+      throw new UncheckedIOException(e);
     }
   }
 }

@@ -25,7 +25,23 @@ public final class LanguageTest {
     none(code, "(?m)^\\s*(private )?static (?!final|class)[\\w\\[\\]]+ \\w+( =|;)", "static field that is not final");
     library(code);
     methods(code);
+    comments(source);
     Due.end();
+  }
+
+  /** Ahead of which calls the document wants which comment: the next comment stands behind them. */
+  private static void comments(String source) {
+    String[] inOrder = {
+      "// ---- settings", "setRule", "setLimit", "// ---- wires", "rewind", "cut", "splice", "close", "punch",
+      "// ---- texts", "type", "clearText", "perform", "// ---- history", "undo", "keep", "restore",
+      "// ---- what is told", "spool", "gap", "read", "errors", "bestWay", "errorsAfter", "safeRewinds", "event", "count"
+    };
+    int place = 0;
+    for (String next : inOrder) {
+      place = source.indexOf(next.startsWith("//") ? next : "public int " + next + "(", place);
+      Due.holds(next + " stands in its order", place >= 0);
+      place = Math.max(place, 0);
+    }
   }
 
   private static String withoutTexts(String source) {

@@ -1,7 +1,15 @@
-/** Compares long runs of calls with the model: usual ones, wrong ones, and wild ones. */
+import java.util.ArrayList;
+import java.util.List;
+import java.util.function.ToIntFunction;
+
+/**
+ * Compares long runs of calls with the model: usual ones, wrong ones, and wild ones. As an object is used
+ * for at most 512 calls, one that was asked so much is made anew by the calls of its run.
+ */
 public final class ModelTest {
-  private static final int RUNS = 800;
+  private static final int RUNS = 1600;
   private static final int CALLS = 512;
+  private static final int MOST_FOR_ONE_STEP = 60;
   private static final String[] WORDS = {"write", "rewind", "cut", "splice", "close", "punch"};
   private static final int[] WILD = {
     Integer.MIN_VALUE, Integer.MIN_VALUE + 1, -100000, -6, -1, 0, 1, 9, 30, 31, 200, 65536, Integer.MAX_VALUE - 1,
@@ -11,6 +19,8 @@ public final class ModelTest {
   private long seed;
   private int wildness;
   private StretchSpool x;
+  private int asked;
+  private final List<ToIntFunction<StretchSpool>> past = new ArrayList<>();
   private Model y;
   private String told = "";
 
@@ -22,15 +32,21 @@ public final class ModelTest {
     Due.end();
   }
 
+  /** Every other run is a shorter one, behind which everything is asked. */
   private void run(int run) {
     seed = 7919L * run + 17;
-    wildness = new int[] {0, 4, 10, 50}[run % 4];
+    wildness = new int[] {0, 4, 10, 50}[run / 2 % 4];
     x = new StretchSpool();
     y = new Model();
-    for (int call = 0; call < CALLS; call++) {
-      oneCall("run " + run + ", call " + call + ": ");
+    past.clear();
+    int calls = run % 2 == 0 ? CALLS - MOST_FOR_ONE_STEP : 20 + next(380);
+    while (past.size() < calls) {
+      oneStep("run " + run + ", call " + past.size() + ": ");
     }
-    everyQuestion("run " + run + ", at last: ");
+    asked = past.size();
+    if (run % 2 == 1) {
+      everyQuestion("run " + run + ", at last: ");
+    }
   }
 
   /** A counter's numbers, stirred: the same in every run of the test. */
@@ -64,19 +80,32 @@ public final class ModelTest {
     return next(4) == 0 ? number(1, 30) : number(1, 5);
   }
 
-  private void same(String call, int got, int want) {
-    Due.is(told + call, got, want);
+  /** A call of the run itself. */
+  private void same(String call, ToIntFunction<StretchSpool> of, int want) {
+    past.add(of);
+    Due.is(told + call, of.applyAsInt(x), want);
   }
 
-  private void oneCall(String where) {
+  /** A question behind the run. */
+  private void ask(String call, ToIntFunction<StretchSpool> of, int want) {
+    if (asked == CALLS) {
+      x = new StretchSpool();
+      for (ToIntFunction<StretchSpool> one : past) {
+        one.applyAsInt(x);
+      }
+      asked = past.size();
+    }
+    asked++;
+    Due.is(told + call, of.applyAsInt(x), want);
+  }
+
+  private void oneStep(String where) {
     told = where;
     int kind = next(20);
     if (kind < 7) {
       command();
     } else if (kind < 14) {
       act();
-    } else if (kind == 14 && next(12) == 0) {
-      everyQuestion(where);
     } else {
       question();
     }
@@ -98,11 +127,11 @@ public final class ModelTest {
     if (next(5) == 0) {
       spoil(text);
     }
-    same("clearText()", x.clearText(), y.clearText());
-    for (int place = 0; place < text.length(); place++) {
-      same("type", x.type(text.charAt(place)), y.type(text.charAt(place)));
+    same("clearText()", o -> o.clearText(), y.clearText());
+    for (char sign : text.toString().toCharArray()) {
+      same("type", o -> o.type(sign), y.type(sign));
     }
-    same("perform() of \"" + text + "\"", x.perform(), y.perform());
+    same("perform() of \"" + text + "\"", o -> o.perform(), y.perform());
   }
 
   private void spoil(StringBuilder text) {
@@ -130,43 +159,43 @@ public final class ModelTest {
     switch (next(13)) {
       case 0:
         int rule = number(0, 2);
-        same("setRule(" + rule + ")", x.setRule(rule), y.setRule(rule));
+        same("setRule(" + rule + ")", o -> o.setRule(rule), y.setRule(rule));
         break;
       case 1:
         int limit = next(3) == 0 ? number(101, 110) : number(101, 200);
-        same("setLimit(" + limit + ")", x.setLimit(limit), y.setLimit(limit));
+        same("setLimit(" + limit + ")", o -> o.setLimit(limit), y.setLimit(limit));
         break;
       case 2:
       case 3:
       case 4:
         int pull = pull();
         int times = times();
-        same("rewind(" + spool + ", " + pull + ", " + times + ")", x.rewind(spool, pull, times), y.rewind(spool, pull, times));
+        same("rewind(" + spool + ", " + pull + ", " + times + ")", o -> o.rewind(spool, pull, times), y.rewind(spool, pull, times));
         break;
       case 5:
       case 6:
         int letter = letter(spool);
-        same("cut(" + spool + ", " + letter + ")", x.cut(spool, letter), y.cut(spool, letter));
+        same("cut(" + spool + ", " + letter + ")", o -> o.cut(spool, letter), y.cut(spool, letter));
         break;
       case 7:
         int other = spool();
-        same("splice(" + spool + ", " + other + ")", x.splice(spool, other), y.splice(spool, other));
+        same("splice(" + spool + ", " + other + ")", o -> o.splice(spool, other), y.splice(spool, other));
         break;
       case 8:
-        same("close(" + spool + ")", x.close(spool), y.close(spool));
+        same("close(" + spool + ")", o -> o.close(spool), y.close(spool));
         break;
       case 9:
         int way = number(0, 2);
-        same("punch(" + spool + ", " + way + ")", x.punch(spool, way), y.punch(spool, way));
+        same("punch(" + spool + ", " + way + ")", o -> o.punch(spool, way), y.punch(spool, way));
         break;
       case 10:
-        same("undo()", x.undo(), y.undo());
+        same("undo()", o -> o.undo(), y.undo());
         break;
       case 11:
-        same("keep()", x.keep(), y.keep());
+        same("keep()", o -> o.keep(), y.keep());
         break;
       default:
-        same("restore()", x.restore(), y.restore());
+        same("restore()", o -> o.restore(), y.restore());
         break;
     }
   }
@@ -182,69 +211,77 @@ public final class ModelTest {
     String of = "(" + spool + ", " + way + ", " + letter + "/" + what + ") or (" + way2 + ", " + pull + ", " + times + ")";
     switch (next(9)) {
       case 0:
-        same("spool" + of, x.spool(spool, what), y.spool(spool, what));
+        same("spool" + of, o -> o.spool(spool, what), y.spool(spool, what));
         break;
       case 1:
-        same("gap" + of, x.gap(spool, letter, what), y.gap(spool, letter, what));
+        same("gap" + of, o -> o.gap(spool, letter, what), y.gap(spool, letter, what));
         break;
       case 2:
-        same("read" + of, x.read(spool, way, letter), y.read(spool, way, letter));
+        same("read" + of, o -> o.read(spool, way, letter), y.read(spool, way, letter));
         break;
       case 3:
         int kind = number(0, 2);
-        same("errors" + of, x.errors(spool, way, kind), y.errors(spool, way, kind));
+        same("errors" + of, o -> o.errors(spool, way, kind), y.errors(spool, way, kind));
         break;
       case 4:
-        same("bestWay" + of, x.bestWay(spool), y.bestWay(spool));
+        same("bestWay" + of, o -> o.bestWay(spool), y.bestWay(spool));
         break;
       case 5:
-        same("errorsAfter" + of, x.errorsAfter(spool, way2, pull, times), y.errorsAfter(spool, way2, pull, times));
+        same("errorsAfter" + of, o -> o.errorsAfter(spool, way2, pull, times), y.errorsAfter(spool, way2, pull, times));
         break;
       case 6:
-        same("safeRewinds" + of, x.safeRewinds(spool, way2, pull), y.safeRewinds(spool, way2, pull));
+        same("safeRewinds" + of, o -> o.safeRewinds(spool, way2, pull), y.safeRewinds(spool, way2, pull));
         break;
       case 7:
-        same("event" + of, x.event(what, way), y.event(what, way));
+        same("event" + of, o -> o.event(what, way), y.event(what, way));
         break;
       default:
-        same("count" + of, x.count(what), y.count(what));
+        same("count" + of, o -> o.count(what), y.count(what));
         break;
     }
   }
 
+  private static int[] from(int least, int most) {
+    int[] all = new int[most - least + 1];
+    for (int place = 0; place < all.length; place++) {
+      all[place] = least + place;
+    }
+    return all;
+  }
+
   private void everyQuestion(String where) {
     told = where;
-    for (int what = -1; what <= 11; what++) {
-      same("count(" + what + ")", x.count(what), y.count(what));
-      for (int part = -1; part <= 3; part++) {
-        same("event(" + what + ", " + part + ")", x.event(what, part), y.event(what, part));
+    for (int what : from(-1, 11)) {
+      ask("count(" + what + ")", o -> o.count(what), y.count(what));
+      for (int part : from(-1, 3)) {
+        ask("event(" + what + ", " + part + ")", o -> o.event(what, part), y.event(what, part));
       }
     }
-    for (int spool = -1; spool <= 6; spool++) {
+    for (int spool : from(-1, 6)) {
       ofOneSpool(spool);
     }
   }
 
   private void ofOneSpool(int spool) {
-    same("bestWay(" + spool + ")", x.bestWay(spool), y.bestWay(spool));
-    for (int what = -1; what <= 7; what++) {
-      same("spool(" + spool + ", " + what + ")", x.spool(spool, what), y.spool(spool, what));
+    ask("bestWay(" + spool + ")", o -> o.bestWay(spool), y.bestWay(spool));
+    for (int what : from(-1, 7)) {
+      ask("spool(" + spool + ", " + what + ")", o -> o.spool(spool, what), y.spool(spool, what));
     }
-    for (int gap = -1; gap <= 33; gap++) {
-      for (int what = -1; what <= 4; what++) {
-        same("gap(" + spool + ", " + gap + ", " + what + ")", x.gap(spool, gap, what), y.gap(spool, gap, what));
-        same("read(" + spool + ", " + what + ", " + gap + ")", x.read(spool, what, gap), y.read(spool, what, gap));
+    for (int gap : from(-1, 33)) {
+      for (int what : from(-1, 4)) {
+        ask("gap(" + spool + ", " + gap + ", " + what + ")", o -> o.gap(spool, gap, what), y.gap(spool, gap, what));
+        ask("read(" + spool + ", " + what + ", " + gap + ")", o -> o.read(spool, what, gap), y.read(spool, what, gap));
       }
     }
-    for (int way = -1; way <= 3; way++) {
-      for (int what = -1; what <= 3; what++) {
-        same("errors(" + spool + ", " + way + ", " + what + ")", x.errors(spool, way, what), y.errors(spool, way, what));
+    for (int way : from(-1, 3)) {
+      for (int what : from(-1, 3)) {
+        ask("errors(" + spool + ", " + way + ", " + what + ")", o -> o.errors(spool, way, what), y.errors(spool, way, what));
       }
-      for (int pull = -1; pull <= 10; pull++) {
+      for (int pull : from(-1, 10)) {
         String of = "(" + spool + ", " + way + ", " + pull + ")";
-        same("safeRewinds" + of, x.safeRewinds(spool, way, pull), y.safeRewinds(spool, way, pull));
+        ask("safeRewinds" + of, o -> o.safeRewinds(spool, way, pull), y.safeRewinds(spool, way, pull));
         int times = next(33) - 1;
-        same("errorsAfter" + of + " " + times, x.errorsAfter(spool, way, pull, times), y.errorsAfter(spool, way, pull, times));
+        ask("errorsAfter" + of + " " + times, o -> o.errorsAfter(spool, way, pull, times), y.errorsAfter(spool, way, pull, times));
       }
     }
   }

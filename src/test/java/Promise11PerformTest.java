@@ -166,9 +166,9 @@ public final class Promise11PerformTest {
     Due.is("too many", Due.perform(x, "write 0 " + Due.times("h", 42)), StretchSpool.FULL);
     Due.text(x, "write 5 abcdefgh");
     Due.holds("errors change nothing", before.equals(Due.all(x)));
-    Due.is("just enough", Due.perform(x, "write 0 " + Due.times("h", 30)), 30);
-    Due.is("the last letter", x.gap(0, 30, 2), 'h');
-    Due.is("the end", x.gap(0, 31, 2), StretchSpool.NONE);
+    StretchSpool full = Due.with(Due.times("h", 30));
+    Due.is("just enough: the last letter", full.gap(0, 30, 2), 'h');
+    Due.is("the end", full.gap(0, 31, 2), StretchSpool.NONE);
   }
 
   private static void records() {

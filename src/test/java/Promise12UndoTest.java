@@ -1,3 +1,5 @@
+import java.util.function.ToIntFunction;
+
 /** Promise 12: undo. */
 public final class Promise12UndoTest {
   public static void main(String[] args) {
@@ -8,45 +10,61 @@ public final class Promise12UndoTest {
   }
 
   private static void eachActIsTakenBack() {
-    StretchSpool x = Due.with("abcdefgh");
-    Due.is("setRule", taken(x, x.setRule(2)), 1);
-    x.rewind(0, 7, 3);
-    Due.is("setLimit", taken(x, x.setLimit(200)), 1);
-    Due.is("rewind", taken(x, x.rewind(0, 9, 30)), 1);
-    Due.is("cut", taken(x, x.cut(0, 3)), 1);
-    x.cut(0, 3);
-    Due.is("close", taken(x, x.close(0)), 1);
-    Due.is("splice", taken(x, x.splice(1, 0)), 1);
-    Due.is("punch", taken(x, x.punch(0, 0)), 1);
-    x.keep();
-    x.splice(1, 0);
-    Due.is("restore", taken(x, x.restore()), 1);
-    Due.text(x, "write 4 aaa");
-    Due.is("perform", taken(x, x.perform()), 1);
+    takesBack("setRule", x -> x.setRule(2));
+    takesBack("setLimit", x -> x.setLimit(200));
+    takesBack("rewind", x -> x.rewind(0, 9, 30));
+    takesBack("cut", x -> x.cut(0, 3));
+    takesBack("close", x -> x.close(0));
+    takesBack("splice", x -> x.splice(1, 0));
+    takesBack("punch", x -> x.punch(0, 0));
+    takesBack("restore", StretchSpool::restore);
+    takesBack("perform", StretchSpool::perform);
   }
 
-  /** Tells 1 if undo brings back what was before the act that was just done, and redoing differs. */
-  private static int taken(StretchSpool x, int answer) {
-    String after = Due.stateOf(x);
+  private static StretchSpool made() {
+    StretchSpool x = Due.with("abcdefgh");
+    x.keep();
+    x.rewind(0, 7, 3);
+    x.cut(0, 5);
+    Due.text(x, "write 4 aaa");
+    return x;
+  }
+
+  /** The act changes the state, and undo brings back what was before it. */
+  private static void takesBack(String act, ToIntFunction<StretchSpool> asked) {
+    String before = Due.stateOf(made());
+    StretchSpool x = made();
+    Due.holds(act + " answers no error", asked.applyAsInt(x) >= 0);
+    Due.holds(act + " changes the state", !before.equals(Due.stateOf(x)));
     int states = x.count(9);
-    Due.holds("the act answered no error", answer >= 0);
     Due.is("undo()", x.undo(), states - 1);
     Due.is("the states left", x.count(9), states - 1);
-    return after.equals(Due.stateOf(x)) ? 0 : 1;
+    Due.holds(act + " is taken back", before.equals(Due.stateOf(x)));
+  }
+
+  private static StretchSpool after(int acts) {
+    StretchSpool x = new StretchSpool();
+    for (int act = 0; act < acts; act++) {
+      Due.perform(x, act < 6 ? "write " + act + " abc" : "rewind 0 3");
+    }
+    return x;
   }
 
   private static void atMostFour() {
-    StretchSpool x = new StretchSpool();
-    Due.is("nothing to undo", x.undo(), StretchSpool.NONE);
-    String[] states = new String[8];
-    for (int act = 0; act < 8; act++) {
-      states[act] = Due.stateOf(x);
-      Due.perform(x, act < 6 ? "write " + act + " abc" : "rewind 0 3");
-      Due.is("states", x.count(9), Math.min(4, act + 1));
+    Due.is("nothing to undo", new StretchSpool().undo(), StretchSpool.NONE);
+    for (int acts = 0; acts <= 8; acts++) {
+      Due.is("states", after(acts).count(9), Math.min(4, acts));
     }
+    for (int times = 1; times <= 4; times++) {
+      StretchSpool undone = after(8);
+      for (int time = 1; time <= times; time++) {
+        Due.is("undo()", undone.undo(), 4 - time);
+      }
+      Due.holds("what was " + times + " acts before", Due.stateOf(undone).equals(Due.stateOf(after(8 - times))));
+    }
+    StretchSpool x = after(8);
     for (int left = 3; left >= 0; left--) {
       Due.is("undo()", x.undo(), left);
-      Due.holds("the state " + (left + 4) + " is back", states[left + 4].equals(Due.stateOf(x)));
     }
     Due.is("the older ones are dropped", x.undo(), StretchSpool.NONE);
     Due.is("four spools", x.count(0), 4);

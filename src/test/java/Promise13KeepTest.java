@@ -17,12 +17,18 @@ public final class Promise13KeepTest {
     x.cut(5, 0);
     Due.is("restore()", x.restore(), 2);
     Due.holds("all is back", kept.equals(Due.stateOf(x)));
-    Due.perform(x, "write 0 a");
-    String later = Due.stateOf(x);
-    Due.is("another snapshot", x.keep(), 3);
-    x.setRule(1);
-    Due.is("takes the place of the first", x.restore(), 3);
-    Due.holds("the later one is back", later.equals(Due.stateOf(x)));
+    inPlaceOfTheFirst();
     Due.end();
+  }
+
+  private static void inPlaceOfTheFirst() {
+    StretchSpool x = Due.with("abc");
+    x.keep();
+    Due.perform(x, "write 5 a");
+    String later = Due.stateOf(x);
+    Due.is("another snapshot", x.keep(), 2);
+    x.setRule(1);
+    Due.is("takes the place of the first", x.restore(), 2);
+    Due.holds("the later one is back", later.equals(Due.stateOf(x)));
   }
 }

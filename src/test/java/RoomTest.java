@@ -5,6 +5,7 @@ import java.lang.management.ManagementFactory;
 public final class RoomTest {
   private static final long BYTES_OF_AN_OBJECT = 40_000;
   private static final long BYTES_OF_512_CALLS = 4_000;
+  private static final int ONE_ROUND = 37;
 
   public static void main(String[] args) {
     ThreadMXBean threads = (ThreadMXBean) ManagementFactory.getThreadMXBean();
@@ -16,12 +17,13 @@ public final class RoomTest {
     StretchSpool x = new StretchSpool();
     long made = threads.getThreadAllocatedBytes(thread);
     int calls = 0;
-    while (calls < 512) {
+    for (int round = 0; round < 512 / ONE_ROUND; round++) {
       calls += round(x);
     }
     long called = threads.getThreadAllocatedBytes(thread);
     Due.holds("an object takes " + (made - before) + " bytes", made - before < BYTES_OF_AN_OBJECT);
-    Due.holds("512 calls take " + (called - made) + " bytes", called - made < BYTES_OF_512_CALLS);
+    Due.holds(calls + " calls take " + (called - made) + " bytes", called - made < BYTES_OF_512_CALLS);
+    Due.holds("an object is used for at most 512 calls", calls <= 512);
     Due.end();
   }
 
@@ -52,6 +54,6 @@ public final class RoomTest {
     x.safeRewinds(0, 1, 2);
     x.event(3, 1);
     x.count(1);
-    return text.length + 21;
+    return ONE_ROUND;
   }
 }
