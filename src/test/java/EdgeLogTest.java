@@ -7,6 +7,7 @@ public final class EdgeLogTest {
     tenAreKnown();
     moreThanTenAtOnce();
     tenBehindUndo();
+    tenOfSeveralKindsAndSpools();
     written();
     rewoundEachTime();
     breaksBehind();
@@ -99,6 +100,28 @@ public final class EdgeLogTest {
     none(x, 1);
     x.undo();
     none(x, 0);
+  }
+
+  /** Each event that is pushed back keeps its kind, its spool and its number. */
+  private static void tenOfSeveralKindsAndSpools() {
+    Due.sentence(HEADING, TEN);
+    StretchSpool x = new StretchSpool();
+    for (int spool = 0; spool < 5; spool++) {
+      Due.perform(x, "write " + spool + " " + Due.times("c", spool + 2));
+      x.rewind(spool, 9 - spool, 1);
+    }
+    for (int more = 1; more <= 5; more++) {
+      x.punch(5 - more, more % 3);
+      for (int back = 0; back < more; back++) {
+        is(x, back, 6, 5 - more + back, (more - back) % 3);
+      }
+      for (int back = more; back < 10; back++) {
+        int spool = 4 - (back - more) / 2;
+        int kind = (back - more) % 2 == 0 ? 1 : 0;
+        is(x, back, kind, spool, kind == 1 ? 9 - spool : spool + 2);
+      }
+      none(x, 10);
+    }
   }
 
   private static final String KINDS = "The kinds of events are: 0 a wire is written,";

@@ -205,6 +205,12 @@ public final class EdgeTextsTest {
     fault("Close 0", 0);
     fault("clos 0", 0);
     fault("lose 0", 0);
+    fault("xlose 0", 0);
+    fault("xrite 0 a", 0);
+    fault("xewind 0 1", 0);
+    fault("xut 0 1", 0);
+    fault("xplice 0 1", 0);
+    fault("xunch 0 1", 0);
     fault("closes 0", 0);
     fault("clode 0", 0);
     fault("writ 0 a", 0);

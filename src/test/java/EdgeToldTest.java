@@ -23,6 +23,7 @@ public final class EdgeToldTest {
     bestWayRange();
     bestWayNumbers();
     bestWayAnswers();
+    oneBehindAnother();
     Due.end();
   }
 
@@ -362,6 +363,13 @@ public final class EdgeToldTest {
     StretchSpool one = Made.withBeginning("99", 5329, "eeehb");
     one.cut(0, 4);
     best(one, 1, 0, NOT_POSSIBLE, 1);
+    StretchSpool thirty = Made.withBeginning("999999", 6051, Due.times("b", 30));
+    Due.perform(thirty, "write 3 a");
+    thirty.cut(3, 0);
+    thirty.close(3);
+    Made.pull(thirty, 3, "9999973");
+    thirty.splice(0, 3);
+    best(thirty, 30, 30, 29, 2);
     StretchSpool none = Due.with("a");
     none.cut(0, 0);
     best(none, 0, 0, NOT_POSSIBLE, 0);
@@ -377,5 +385,30 @@ public final class EdgeToldTest {
     Whole mixed = new Whole(Made::mixed);
     mixed.refuses("an empty spool", x -> x.bestWay(5), NOT_POSSIBLE);
     new Whole(Made::empty).refuses("all are empty", x -> x.bestWay(0), NOT_POSSIBLE);
+  }
+
+  /** What is told of one wire does not hang on what was told of another one before. */
+  private static void oneBehindAnother() {
+    Due.sentence("Promise 18", "Returns the number;");
+    StretchSpool x = Made.withBeginning("9999999992", 6667, "abbaabbaabbc");
+    Due.perform(x, "write 4 ha");
+    for (int time = 0; time < 2; time++) {
+      errors(x, 0, 7, 5, 0);
+      Due.is("none of the other one", x.errors(4, 0, 2), NONE);
+      Due.is("misread", x.errors(4, 0, 0), 0);
+      Due.is("read of the first one", x.read(0, 0, 11), 'b');
+      Due.is("no letter 2 of the other one", x.read(4, 0, 2), UNKNOWN);
+      Due.is("read of the other one", x.read(4, 0, 1), 'a');
+      Due.is("read of the first one", x.read(0, 0, 0), '?');
+      Due.is("safe for the other one", x.safeRewinds(4, 0, 0), 30);
+      Due.is("errors of the first one then", x.errorsAfter(0, 0, 0, 1), 12);
+      Due.is("safe for the other one", x.safeRewinds(4, 1, 0), 30);
+      Due.is("errors of the other one then", x.errorsAfter(4, 0, 0, 1), 0);
+      Due.is("safe for the first one", x.safeRewinds(0, 0, 0), 30);
+      Due.is("the best way of the first one", x.bestWay(0), 2);
+      Due.is("the best way of the other one", x.bestWay(4), 0);
+      Due.is("punched: the first one cannot be", x.punch(0, 0), NOT_POSSIBLE);
+      Due.is("punched: the other one can be", x.punch(4, 0), 0);
+    }
   }
 }
